@@ -208,7 +208,7 @@ public final class StreamJudge {
             return term == null ? NONE : term.size;
         }
         Values values = valuesNow();
-        values.findAll(a);
+        values.findUpToReach(a);
         switch (what) {
             case 1: return values.reach(a);
             case 2: return values.countDifferent(a);
@@ -254,8 +254,8 @@ public final class StreamJudge {
         int count = values.collectNeeded(a, i);
         switch (what) {
             case 0: return count;
-            case 2: return workspace.greatestIndex(count);
-            default: return workspace.countStreams(count);
+            case 2: return sharedWorkspace().greatestIndex(count);
+            default: return sharedWorkspace().countStreams(count);
         }
     }
 
@@ -328,7 +328,7 @@ public final class StreamJudge {
         Values values = valuesNow();
         int full = 0;
         for (int a = 0; a < STREAMS; a++) {
-            values.findAll(a);
+            values.findUpToReach(a);
             if (values.reach(a) == SPAN) {
                 full++;
             }
@@ -363,7 +363,7 @@ public final class StreamJudge {
 
     /**
      * How the parts of a term are coded: by the byte that begins them in a text, but for a front,
-     * whose digit is drawn into its code, so that a term has one code for each part.
+     * whose code holds its digit too, so that a term has one code for each part.
      */
     private static final class Code {
         static final int FRONT = 128;
@@ -414,6 +414,25 @@ public final class StreamJudge {
                     ends[p] = ends[p + 1];
                 }
             }
+        }
+
+        /** The positions at which streams are named. */
+        static int[] findMentions(int[] codes, int size) {
+            int count = 0;
+            for (int p = 0; p < size; p++) {
+                if (isStreamName(codes[p])) {
+                    count++;
+                }
+            }
+            int[] mentions = new int[count];
+            int filled = 0;
+            for (int p = 0; p < size && filled < count; p++) {
+                if (isStreamName(codes[p])) {
+                    mentions[filled] = p;
+                    filled++;
+                }
+            }
+            return mentions;
         }
     }
 
@@ -498,18 +517,20 @@ public final class StreamJudge {
         final int[] codes;
         /** For each part the position of the next one that is not within it. */
         final int[] ends;
-        /** For each part the stream that it names, or -1. */
-        final int[] names;
+        /** The positions of the parts that name a stream. */
+        final int[] mentions;
 
         Term(int[] source, int length) {
             size = length;
             codes = Arrays.copyOf(source, length);
             ends = new int[length];
-            names = new int[length];
             Code.findEnds(codes, length, ends);
-            for (int p = 0; p < length; p++) {
-                names[p] = Code.isStreamName(codes[p]) ? codes[p] - 'A' : -1;
-            }
+            mentions = Code.findMentions(codes, length);
+        }
+
+        /** The stream that is named by the part at p, which must be one of the mentions. */
+        int streamAt(int p) {
+            return codes[p] - 'A';
         }
 
         int byteAt(int k) {
@@ -534,11 +555,8 @@ public final class StreamJudge {
 
         int streamSet() {
             int set = 0;
-            for (int p = 0; p < size; p++) {
-                int named = names[p];
-                if (named >= 0) {
-                    set |= 1 << named;
-                }
+            for (int p : mentions) {
+                set |= 1 << streamAt(p);
             }
             return set;
         }
@@ -554,9 +572,11 @@ public final class StreamJudge {
 
         /** The size that with(b, inner) would have. */
         int sizeWith(int b, Term inner) {
-            int total = 0;
-            for (int p = 0; p < size; p++) {
-                total += names[p] == b ? inner.size : 1;
+            int total = size;
+            for (int p : mentions) {
+                if (streamAt(p) == b) {
+                    total += inner.size - 1;
+                }
             }
             return total;
         }
@@ -566,7 +586,7 @@ public final class StreamJudge {
             int[] joined = new int[sizeWith(b, inner)];
             int filled = 0;
             for (int p = 0; p < size; p++) {
-                if (names[p] == b) {
+                if (codes[p] == 'A' + b) {
                     System.arraycopy(inner.codes, 0, joined, filled, inner.size);
                     filled += inner.size;
                 } else {
@@ -854,12 +874,9 @@ public final class StreamJudge {
                     continue;
                 }
                 findShifts(term);
-                for (int p = 0; p < term.size; p++) {
-                    int to = term.names[p];
-                    if (to >= 0) {
-                        int place = from * STREAMS + to;
-                        steps[place] = Math.max(steps[place], shifts[p]);
-                    }
+                for (int p : term.mentions) {
+                    int place = from * STREAMS + term.streamAt(p);
+                    steps[place] = Math.max(steps[place], shifts[p]);
                 }
             }
         }
@@ -881,7 +898,7 @@ public final class StreamJudge {
         }
     }
 
-    /** Rows for the work on values that nothing is kept in between calls. */
+    /** Rows for the work on values; nothing is kept in them between calls. */
     private static final class Workspace {
         private static final int UNNEEDED = -1;
         private static final int BITS = 64;
@@ -900,43 +917,44 @@ public final class StreamJudge {
                 if (indices[p] > GREATEST_INDEX) {
                     return false;
                 }
-                int code = term.codes[p];
-                if (Code.isPair(code)) {
-                    spreadPair(code, indices[p], p + 1, term.ends[p + 1]);
-                } else if (!Code.isLeaf(code)) {
-                    indices[p + 1] = innerIndex(code, indices[p]);
-                }
+                spreadPart(term, p, indices[p]);
             }
             return true;
         }
 
-        private void spreadPair(int code, int index, int first, int second) {
-            if (code != 'z' || index == UNNEEDED) {
-                indices[first] = index;
-                indices[second] = index;
-                return;
+        private void spreadPart(Term term, int p, int index) {
+            int code = term.codes[p];
+            boolean needed = index != UNNEEDED;
+            switch (code) {
+                case '+':
+                case '*':
+                    indices[p + 1] = index;
+                    indices[term.ends[p + 1]] = index;
+                    break;
+                case 'z':
+                    boolean even = index % 2 == 0;
+                    indices[p + 1] = needed && even ? index / 2 : UNNEEDED;
+                    indices[term.ends[p + 1]] = needed && !even ? index / 2 : UNNEEDED;
+                    break;
+                case 't':
+                    indices[p + 1] = needed ? index + 1 : UNNEEDED;
+                    break;
+                case 'e':
+                    indices[p + 1] = needed ? 2 * index : UNNEEDED;
+                    break;
+                case 'o':
+                    indices[p + 1] = needed ? 2 * index + 1 : UNNEEDED;
+                    break;
+                default:
+                    if (code >= Code.FRONT) {
+                        indices[p + 1] = needed && index > 0 ? index - 1 : UNNEEDED;
+                    }
             }
-            boolean even = index % 2 == 0;
-            indices[first] = even ? index / 2 : UNNEEDED;
-            indices[second] = even ? UNNEEDED : index / 2;
         }
 
-        private static int innerIndex(int code, int index) {
-            if (index == UNNEEDED) {
-                return UNNEEDED;
-            }
-            if (Code.isFront(code)) {
-                return index == 0 ? UNNEEDED : index - 1;
-            }
-            if (code == 't') {
-                return index + 1;
-            }
-            return code == 'e' ? 2 * index : 2 * index + 1;
-        }
-
-        /** Whether the part at p, behind spread, names a value. */
-        boolean namesValue(Term term, int p) {
-            return indices[p] != UNNEEDED && term.names[p] >= 0;
+        /** Whether the part at p, behind spread, is needed. */
+        boolean isNeeded(int p) {
+            return indices[p] != UNNEEDED;
         }
 
         /** The value of a term, behind spread; all values that it names must be known. */
@@ -951,25 +969,19 @@ public final class StreamJudge {
 
         private int resultOf(Term term, int p, int[] cells, int modulus) {
             int code = term.codes[p];
-            if (Code.isStreamName(code)) {
-                return Values.valueIn(cells[term.names[p] * SPAN + indices[p]]);
+            switch (code) {
+                case '+': return (results[p + 1] + results[term.ends[p + 1]]) % modulus;
+                case '*': return results[p + 1] * results[term.ends[p + 1]] % modulus;
+                case 'z': return indices[p] % 2 == 0 ? results[p + 1] : results[term.ends[p + 1]];
+                case 't':
+                case 'e':
+                case 'o': return results[p + 1];
+                default: break;
             }
-            if (Code.isDigit(code)) {
-                return (code - '0') % modulus;
+            if (code >= Code.FRONT) {
+                return indices[p] == 0 ? (code - Code.FRONT) % modulus : results[p + 1];
             }
-            if (Code.isFront(code) && indices[p] == 0) {
-                return (code - Code.FRONT) % modulus;
-            }
-            if (!Code.isPair(code)) {
-                return results[p + 1];
-            }
-            int second = term.ends[p + 1];
-            if (code == 'z') {
-                return indices[p] % 2 == 0 ? results[p + 1] : results[second];
-            }
-            return code == '+'
-                ? (results[p + 1] + results[second]) % modulus
-                : results[p + 1] * results[second] % modulus;
+            return code <= '9' ? (code - '0') % modulus : cells[(code - 'A') * SPAN + indices[p]] % Values.KNOWN;
         }
 
         void clearSeen() {
@@ -1009,7 +1021,7 @@ public final class StreamJudge {
         private static final int OPEN = 1;
         private static final int STUCK = 2;
         /** A cell from KNOWN on holds KNOWN * (rank + 1) + value. */
-        private static final int KNOWN = 16;
+        static final int KNOWN = 16;
         private static final int SETTLED = -1;
 
         private final Equations equations;
@@ -1020,10 +1032,6 @@ public final class StreamJudge {
         Values(Equations equations, Workspace workspace) {
             this.equations = equations;
             this.workspace = workspace;
-        }
-
-        static int valueIn(int cell) {
-            return cell % KNOWN;
         }
 
         private static int rankIn(int cell) {
@@ -1045,20 +1053,29 @@ public final class StreamJudge {
         }
 
         void findAll(int a) {
-            for (int i = 0; i < SPAN; i++) {
-                int place = a * SPAN + i;
+            for (int place = a * SPAN; place < (a + 1) * SPAN; place++) {
                 if (cells[place] == UNTOUCHED) {
                     solve(place);
                 }
             }
         }
 
-        // The methods below tell of streams for which findAll, or of values for which find, has been called.
+        void findUpToReach(int a) {
+            boolean reached = true;
+            for (int place = a * SPAN; place < (a + 1) * SPAN && reached; place++) {
+                if (cells[place] == UNTOUCHED) {
+                    solve(place);
+                }
+                reached = cells[place] >= KNOWN;
+            }
+        }
+
+        // The methods below tell only of what has been found: they stay flat, since finding goes deep.
 
         /** The value of a stream at an index; NONE if it cannot be computed. */
         int at(int a, int i) {
             int cell = cells[a * SPAN + i];
-            return cell < KNOWN ? NONE : valueIn(cell);
+            return cell < KNOWN ? NONE : cell % KNOWN;
         }
 
         int rank(int a, int i) {
@@ -1095,8 +1112,8 @@ public final class StreamJudge {
                 return SETTLED;
             }
             int rank = 0;
-            for (int p = 0; p < term.size; p++) {
-                if (!workspace.namesValue(term, p)) {
+            for (int p : term.mentions) {
+                if (!workspace.isNeeded(p)) {
                     continue;
                 }
                 int needed = neededCell(term, p);
@@ -1116,7 +1133,7 @@ public final class StreamJudge {
         /** The cell of the value that the part at p names; -1 if it lies beyond all cells. */
         private int neededCell(Term term, int p) {
             int index = workspace.indices[p];
-            return index < SPAN ? term.names[p] * SPAN + index : -1;
+            return index < SPAN ? term.streamAt(p) * SPAN + index : -1;
         }
 
         /** Collects the cells that a known value needs, in the workspace's queue from 1 on; answers how many. */
@@ -1138,8 +1155,8 @@ public final class StreamJudge {
                 return end;
             }
             int filled = end;
-            for (int p = 0; p < term.size; p++) {
-                if (!workspace.namesValue(term, p)) {
+            for (int p : term.mentions) {
+                if (!workspace.isNeeded(p)) {
                     continue;
                 }
                 int needed = neededCell(term, p);

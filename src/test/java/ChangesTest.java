@@ -65,6 +65,8 @@ public final class ChangesTest {
         Check.due("setModulus(3)", x.setModulus(3), 10);
         Check.due("setModulus(3) again", x.setModulus(3), 3);
         Check.due("told(5), the same modulus is a change too", x.told(5), 3);
+        Check.due("setModulus(2)", x.setModulus(2), 3);
+        Check.due("undo()", x.undo(), 3);
         Check.due("told(0)", x.told(0), 3);
         x.undo();
         x.undo();
@@ -92,6 +94,9 @@ public final class ChangesTest {
         Check.due("insert(0, 0)", x.insert(0, 0), 21);
         Check.due("listing behind itself", Check.listingOf(x, 0), "++A*z1tCz1tC*z1tCz1tC");
         Check.due("the other one stays", Check.listingOf(x, 1), "z1tC");
+        StreamJudge one = Check.judge(2, "B", ":3A");
+        Check.due("insert into a single part", one.insert(0, 1), 2);
+        Check.due("listing", Check.listingOf(one, 0), ":3A");
         StreamJudge y = Check.judge(2, "+BB", ":3+BA");
         Check.due("b occurs in its own term", y.insert(0, 1), 9);
         Check.due("each occurrence once, as it was", Check.listingOf(y, 0), "+:3+BA:3+BA");

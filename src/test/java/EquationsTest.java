@@ -22,12 +22,14 @@ public final class EquationsTest {
         Check.due("told(-1)", x.told(-1), -1);
         Check.due("told(7)", x.told(7), -1);
         Check.due("told(greatest int)", x.told(Integer.MAX_VALUE), -1);
-        for (String kind : new String[] {"zAB", "eA", "oA", ":1t+Ae1"}) {
-            Check.equation(x, 4, kind);
-            Check.due("told(3) with " + kind, x.told(3), 0);
+        for (int a = 0; a < 8; a++) {
+            for (String kind : new String[] {"zAB", "eA", "oA", ":1t+Ae1"}) {
+                Check.equation(x, a, kind);
+                Check.due("told(3) with " + kind + " in " + a, x.told(3), 0);
+            }
+            x.undefine(a);
+            Check.due("told(3) without an equation of " + a, x.told(3), 1);
         }
-        x.undefine(4);
-        Check.due("told(3) without it", x.told(3), 1);
         StreamJudge y = Check.judge(2, "1", ":1B", "tB", "A", "D", "zBB", "eB", "H");
         Check.due("streams whose reach is 400", y.told(6), 5);
     }
@@ -60,6 +62,7 @@ public final class EquationsTest {
         Check.due("uses(1)", x.uses(1), 0);
         Check.due("uses(2)", x.uses(2), 4);
         Check.due("uses(3)", x.uses(3), -9);
+        Check.due("uses of a single part", Check.judge(2, "G").uses(0), 64);
         Check.due("uses(8)", x.uses(8), -1);
         Check.due("uses(-1)", x.uses(-1), -1);
     }

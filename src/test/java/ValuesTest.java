@@ -194,6 +194,11 @@ public final class ValuesTest {
         StreamJudge x = oneAt(200);
         Check.due("p with a 1 at 200", x.stream(0, 4), 1);
         Check.due("q with a 1 at 200", x.stream(0, 5), 0);
+        Check.due("p of a ring of 99", ring(99).stream(0, 4), 99);
+        Check.due("p of a ring of 100", ring(100).stream(0, 4), 100);
+        Check.due("q of a ring of 100", ring(100).stream(0, 5), 0);
+        Check.due("p of a ring of 101", ring(101).stream(0, 4), -9);
+        Check.due("q of a ring of 101", ring(101).stream(0, 5), -9);
         StreamJudge y = withFronts(39, "123", "0");
         Check.due("p behind 39 fronts", y.stream(0, 4), 1);
         Check.due("q behind 39 fronts", y.stream(0, 5), 39);
@@ -210,6 +215,16 @@ public final class ValuesTest {
         }
         Check.equation(x, 7, ":10");
         return x;
+    }
+
+    /** A stream that has a 1 at 199 and at all distances from it that are multiples of the length, and 0 elsewhere. */
+    private static StreamJudge ring(int length) {
+        StringBuilder fronts = new StringBuilder();
+        for (int k = 0; k < length; k++) {
+            fronts.append(k == 199 % length ? ":1" : ":0");
+        }
+        return Check.judge(10, fronts.substring(0, 76) + "B", fronts.substring(76, 152) + "C",
+            fronts.substring(152) + "A");
     }
 
     private static void testParting() {
@@ -261,6 +276,8 @@ public final class ValuesTest {
         needsAre(x, 6, 4, 4, 3, 4, 2);
         needsAre(x, 7, 9, 1, 1, 9, 1);
         needsAre(x, 0, 399, 399, 398, 398, 1);
+        StreamJudge y = Check.judge(10, "B", "C", ":1C");
+        needsAre(y, 0, 2, 4, 4, 2, 2);
     }
 
     private static void testNeedsErrors() {
@@ -281,6 +298,8 @@ public final class ValuesTest {
 
     /** Ways through nearly all values there are: 400 indices times eight streams. */
     private static void testLongWays() {
+        StreamJudge w = Check.judge(10, ":1H", "+1A", "+1B", "+1C", "+1D", "+1E", "+1F", "+1G");
+        Check.due("value(7, 399), the first value asked for", w.value(7, 399), (399 * 7 + 1 + 7) % 10);
         StreamJudge x = Check.judge(10, ":1H", "+1A", "+1B", "+1C", "+1D", "+1E", "+1F", "+1G");
         Check.due("told(6)", x.told(6), 8);
         needsAre(x, 7, 399, 3199, 3199, 399, 8);
