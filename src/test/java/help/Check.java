@@ -6,6 +6,14 @@ final class Check {
     private Check() {
     }
 
+    static int answers() {
+        return answers;
+    }
+
+    static int wrong() {
+        return wrong;
+    }
+
     static void due(String call, long got, long want) {
         answers++;
         if (got != want) {
@@ -54,7 +62,7 @@ final class Check {
         x.setModulus(modulus);
         for (int a = 0; a < equations.length; a++) {
             if (!equations[a].isEmpty()) {
-                equation(x, a, equations[a]);
+                due("define by " + equations[a] + " has a size", equation(x, a, equations[a]) > 0 ? 1 : 0, 1);
             }
         }
         return x;
