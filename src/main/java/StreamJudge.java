@@ -403,6 +403,12 @@ public final class StreamJudge {
             return code == ':' || code == 't' || code == 'e' || code == 'o' ? 1 : -1;
         }
 
+        static int[] endsOf(int[] codes, int size) {
+            int[] ends = new int[size];
+            findEnds(codes, size, ends);
+            return ends;
+        }
+
         /** Finds where each part ends; from the back, since a part ends where its last operand does. */
         static void findEnds(int[] codes, int size, int[] ends) {
             for (int p = size - 1; p >= 0; p--) {
@@ -523,9 +529,8 @@ public final class StreamJudge {
         Term(int[] source, int length) {
             size = length;
             codes = Arrays.copyOf(source, length);
-            ends = new int[length];
-            Code.findEnds(codes, length, ends);
-            mentions = Code.findMentions(codes, length);
+            ends = Code.endsOf(source, length);
+            mentions = Code.findMentions(source, length);
         }
 
         /** The stream that is named by the part at p, which must be one of the mentions. */
@@ -678,7 +683,10 @@ public final class StreamJudge {
 
     /** Simplifies one equation in rows of its own, so that a refusal leaves the equation as it was. */
     private static final class Rewriting {
-        /** Far above what any equation can take: tails only move inwards, and at most 120 parts stand at once. */
+        /**
+         * Far above what any equation can take: only tails are ever doubled, and the outer terms come first, so that
+         * all tails that cross a part do so in one go, at most 120 of them.
+         */
         private static final int MOST_APPLICATIONS = 1000000;
 
         private final int[] codes = new int[GREATEST_SIZE];

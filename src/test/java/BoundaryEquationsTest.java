@@ -146,15 +146,10 @@ public final class BoundaryEquationsTest {
 
     @Says(in = "Promise 11", words = "2 the sum of the sizes of all equations")
     static void toldSumOfSizes() {
-        StreamJudge x = new StreamJudge();
-        Check.due("told(2) of none", x.told(2), 0);
-        for (int a = 0; a < 8; a++) {
-            Check.equation(x, a, "t".repeat(79) + name(a));
-        }
+        Check.due("told(2) of none", new StreamJudge().told(2), 0);
+        StreamJudge x = withOneText(8, "t".repeat(79) + "A");
         Check.due("told(2) of eight times 80", x.told(2), 640);
         Check.equation(x, 0, "t".repeat(40) + "A");
-        x.insert(1, 1);
-        Check.equation(x, 1, "t".repeat(79) + "A");
         x.insert(1, 0);
         Check.due("told(2) with one of 120 and one of 41", x.told(2), 6 * 80 + 120 + 41);
         Check.equation(x, 7, ":9:9H");
@@ -339,35 +334,46 @@ public final class BoundaryEquationsTest {
         cycleIs(1003, "+AB", "tttA");
         cycleIs(1001, "+tAB", ":1A");
         cycleIs(1005, "+B+CD", "tA", "tttttA", "ttA");
-        // The way over G or H, and the least and the greatest sums that texts of 80 bytes can make.
+        // Far below and far above 1000, through all eight.
         StreamJudge low = new StreamJudge();
         StreamJudge high = new StreamJudge();
         for (int a = 0; a < 8; a++) {
-            Check.equation(low, a, ":1".repeat(39) + name((a + 1) % 8));
-            Check.equation(high, a, "t".repeat(79) + name((a + 1) % 8));
+            Check.equation(low, a, ":1".repeat(25) + name((a + 1) % 8));
+            Check.equation(high, a, "t".repeat(50) + name((a + 1) % 8));
         }
         for (int a = 0; a < 8; a++) {
-            Check.due("the least sum", low.cycle(a), 1000 - 8 * 39);
-            Check.due("the greatest sum", high.cycle(a), 1000 + 8 * 79);
+            Check.due("a sum of -200", low.cycle(a), 1000 - 8 * 25);
+            Check.due("a sum of 400", high.cycle(a), 1000 + 8 * 50);
         }
     }
 
-    /** Seven equations of 119 fronts or tails, made by inserting the eighth stream's; that one has fewer. */
-    private static StreamJudge farRing(String step, int first, int second) {
-        StreamJudge x = new StreamJudge();
-        for (int a = 0; a < 7; a++) {
-            for (int rest = 119; rest > 0; rest -= first) {
-                int count = Math.min(rest, first);
-                String goal = count < rest ? "H" : name(a + 1);
-                if (rest == 119) {
-                    Check.equation(x, a, step.repeat(count) + goal);
-                } else {
-                    Check.equation(x, 7, step.repeat(count) + goal);
-                    Check.due("insert", x.insert(a, 7) > 0 ? 1 : 0, 1);
-                }
+    /**
+     * A ring of seven equations with 119 steps and a last one with fewer: all seven begin with the same text, and what
+     * they lack comes in by H, so that a judge's 512 calls are enough.
+     */
+    private static StreamJudge farRing(String step, int inText, int inLast) {
+        StreamJudge x = withOneText(8, step.repeat(inText) + "H");
+        int rest = 119 - inText;
+        for (; rest > inText; rest -= inText) {
+            for (int a = 0; a < 7; a++) {
+                x.insert(a, 7);
             }
         }
-        Check.equation(x, 7, step.repeat(second) + "A");
+        for (int a = 0; a < 7; a++) {
+            Check.equation(x, 7, step.repeat(rest) + name(a + 1));
+            Check.due("insert up to 120", x.insert(a, 7), 120);
+        }
+        Check.equation(x, 7, step.repeat(inLast) + "A");
+        return x;
+    }
+
+    /** A judge whose first streams have the same equation. */
+    private static StreamJudge withOneText(int streams, String text) {
+        StreamJudge x = new StreamJudge();
+        Check.text(x, text);
+        for (int a = 0; a < streams; a++) {
+            x.define(a);
+        }
         return x;
     }
 
@@ -388,6 +394,12 @@ public final class BoundaryEquationsTest {
         cycleIs(-9, "B");
         cycleIs(-9, "B", "B");
         cycleIs(-9, "", "A");
+        // Shifts on the way there and on ways back that do not begin here make no cycle either.
+        cycleIs(-9, "ttttB");
+        cycleIs(-9, "ttttB", "tttt5");
+        cycleIs(-9, "5", "ttttA");
+        cycleIs(-9, "tB", "tC", "tB", "tA");
+        cycleIs(-9, ":1B", ":1C", ":1B", ":1A");
         StreamJudge x = Check.judge(2, "B", "C", "B");
         Check.due("cycle(0), which only leads to one", x.cycle(0), -9);
         Check.due("cycle(1)", x.cycle(1), 1000);

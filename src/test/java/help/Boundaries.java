@@ -49,7 +49,7 @@ final class Boundaries {
 
     /**
      * Makes the same judge twice, asks one of both what is refused, and compares what both tell then. Each look begins
-     * with new judges, so that looks may change what they look at.
+     * with new judges, so that looks may change what they look at and a judge's 512 calls are enough.
      */
     static void refusedChangesNothing(String call, Supplier<StreamJudge> maker, ToIntFunction<StreamJudge> refused,
         int want) {
@@ -125,8 +125,9 @@ final class Boundaries {
                 for (int a = 0; a < 8; a++) {
                     seen.append(x.changed(a, i)).append(' ');
                 }
-                seen.append(x.back(i)).append(' ').append(x.told(0)).append(' ');
-                for (int a = 0; a < 4; a++) {
+                int kept = x.back(i);
+                seen.append(kept).append(' ').append(x.told(0)).append(' ');
+                for (int a = 0; a < 4 && kept >= 0; a++) {
                     seen.append(Check.listingOf(x, a)).append(' ');
                 }
             }
