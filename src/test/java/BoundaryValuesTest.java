@@ -18,15 +18,6 @@ public final class BoundaryValuesTest {
         Check.due("reach of " + String.join(", ", equations), Check.judge(10, equations).stream(0, 1), want);
     }
 
-    /** Evens and odds that lead from the index 0 to a greater one. */
-    private static String upTo(int index) {
-        StringBuilder kinds = new StringBuilder();
-        for (int rest = index; rest > 0; rest /= 2) {
-            kinds.append(rest % 2 == 0 ? 'e' : 'o');
-        }
-        return kinds.reverse().toString();
-    }
-
     /** A judge whose stream first begins with the given values (39 in an equation) and then is 0, if there is room. */
     private static StreamJudge beginning(int first, String values) {
         StreamJudge x = Check.judge(10);
@@ -129,7 +120,7 @@ public final class BoundaryValuesTest {
     @Says(in = "VALUES", words = {"If any term within an equation, also a constant, would be needed at an index above",
         "1000000000, the value cannot be computed either"})
     static void termsEndAt1000000000() {
-        String up = upTo(GREATEST);
+        String up = Check.upTo(GREATEST);
         valueIs(5, 0, up + "5");
         valueIs(-9, 0, up + "t5");
         valueIs(5, 0, up + ":15");
@@ -142,12 +133,12 @@ public final class BoundaryValuesTest {
         valueIs(-9, 0, up + "tz56");
         valueIs(-9, 0, up + "e5");
         valueIs(-9, 0, up + "o5");
-        valueIs(5, 0, upTo(GREATEST - 1) + "t5");
-        valueIs(6, 0, upTo(GREATEST - 1) + "z56");
-        valueIs(5, 0, upTo(GREATEST / 2) + "e5");
-        valueIs(-9, 0, upTo(GREATEST / 2) + "te5");
-        valueIs(-9, 0, upTo(GREATEST / 2) + "o5");
-        valueIs(5, 0, upTo(GREATEST / 2 - 1) + "o5");
+        valueIs(5, 0, Check.upTo(GREATEST - 1) + "t5");
+        valueIs(6, 0, Check.upTo(GREATEST - 1) + "z56");
+        valueIs(5, 0, Check.upTo(GREATEST / 2) + "e5");
+        valueIs(-9, 0, Check.upTo(GREATEST / 2) + "te5");
+        valueIs(-9, 0, Check.upTo(GREATEST / 2) + "o5");
+        valueIs(5, 0, Check.upTo(GREATEST / 2 - 1) + "o5");
         valueIs(-9, 0, up + "B", "5");
         valueIs(5, 0, up + "z5B", "5");
         // Doubling goes far beyond what an int holds, and never comes back.
@@ -264,7 +255,7 @@ public final class BoundaryValuesTest {
         valueIs(-9, 0, "A");
         valueIs(-9, 0, "B");
         valueIs(-9, 399, "tB", "5");
-        valueIs(-9, 0, upTo(GREATEST) + "t5");
+        valueIs(-9, 0, Check.upTo(GREATEST) + "t5");
     }
 
     @Says(in = "Promise 15", words = {"BAD if there is no such stream or i is out of range", "`a`: the stream",
@@ -583,7 +574,7 @@ public final class BoundaryValuesTest {
 
     @Says(in = "Promise 19", words = {"Returns the number; NONE if the value cannot be computed"})
     static void needsOfWhatIsStuck() {
-        StreamJudge x = Check.judge(10, "A", "tC", "5", upTo(GREATEST) + "t5");
+        StreamJudge x = Check.judge(10, "A", "tC", "5", Check.upTo(GREATEST) + "t5");
         for (int what = 0; what <= 3; what++) {
             Check.due("needs(0, 0, " + what + "), stuck", x.needs(0, 0, what), -9);
             Check.due("needs(1, 399, " + what + "), above 399", x.needs(1, 399, what), -9);

@@ -80,17 +80,17 @@ public final class ValuesTest {
         Check.due("odds, 2^29 - 1", x.value(2, 0), 5);
         Check.due("odds, 2^30 - 1", x.value(3, 0), -9);
         Check.due("odds, 2^30 - 1", x.value(2, 1), -9);
-        Check.equation(x, 4, upTo(1000000000) + "5");
+        Check.equation(x, 4, Check.upTo(1000000000) + "5");
         Check.due("1000000000", x.value(4, 0), 5);
-        Check.equation(x, 4, upTo(1000000000) + "t5");
+        Check.equation(x, 4, Check.upTo(1000000000) + "t5");
         Check.due("1000000001", x.value(4, 0), -9);
-        Check.equation(x, 4, upTo(1000000000) + ":1:25");
+        Check.equation(x, 4, Check.upTo(1000000000) + ":1:25");
         Check.due("999999998 below fronts", x.value(4, 0), 5);
-        Check.equation(x, 4, upTo(1000000000) + "t:1:25");
+        Check.equation(x, 4, Check.upTo(1000000000) + "t:1:25");
         Check.due("a front at 1000000001", x.value(4, 0), -9);
-        Check.equation(x, 4, upTo(1000000000) + "zA5");
+        Check.equation(x, 4, Check.upTo(1000000000) + "zA5");
         Check.due("a stream at 500000000", x.value(4, 0), -9);
-        Check.equation(x, 4, upTo(999999999) + "zA5");
+        Check.equation(x, 4, Check.upTo(999999999) + "zA5");
         Check.due("the other operand", x.value(4, 0), 5);
         Check.equation(x, 4, "z5" + "e".repeat(60) + "6");
         Check.due("what is not needed counts not", x.value(4, 2), 5);
@@ -101,15 +101,6 @@ public final class ValuesTest {
         Check.due("behind a front", x.value(4, 1), -9);
         Check.equation(x, 4, "*0" + "o".repeat(70) + "6");
         Check.due("both operands are needed", x.value(4, 0), -9);
-    }
-
-    /** Evens and odds that lead from the index 0 to a greater one. */
-    private static String upTo(int index) {
-        StringBuilder kinds = new StringBuilder();
-        for (int rest = index; rest > 0; rest /= 2) {
-            kinds.append(rest % 2 == 0 ? 'e' : 'o');
-        }
-        return kinds.reverse().toString();
     }
 
     private static void testValueErrors() {

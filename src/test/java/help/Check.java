@@ -80,6 +80,15 @@ final class Check {
         return bytes.toString();
     }
 
+    /** Evens and odds that lead from the index 0 to a greater one. */
+    static String upTo(int index) {
+        StringBuilder kinds = new StringBuilder();
+        for (int rest = index; rest > 0; rest /= 2) {
+            kinds.append(rest % 2 == 0 ? 'e' : 'o');
+        }
+        return kinds.reverse().toString();
+    }
+
     /** The first values of a stream, '?' for one that cannot be computed. */
     static String valuesOf(StreamJudge x, int a, int count) {
         StringBuilder values = new StringBuilder();
