@@ -6,8 +6,8 @@ import java.lang.management.ManagementFactory;
  * of it: a million bytes are a quarter of a million ints.
  */
 public final class RoomTest {
-    /** A run's 512 calls without those that write its equations. */
-    private static final int TURNS = 300;
+    /** With those that write the equations (130 at most), a run has not more than its 512 calls. */
+    private static final int TURNS = 380;
     private static final long MOST_BYTES = 1_000_000;
     private static final ThreadMXBean THREADS = (ThreadMXBean) ManagementFactory.getThreadMXBean();
 
